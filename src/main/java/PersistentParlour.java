@@ -41,8 +41,6 @@ public final class PersistentParlour {
     private final Value[] values = new Value[MOST_VALUES];
     private int valueCount = 0;
     private final NodeMaker maker = new NodeMaker();
-    private final VectorWork vectors = new VectorWork(maker);
-    private final MapWork maps = new MapWork(maker);
     private int marks = 0;
     private final Sequence[] sequences = new Sequence[MOST_SEQUENCES];
     private int sequenceCount = 0;
@@ -77,7 +75,7 @@ public final class PersistentParlour {
         int size = old.size;
         int[] plain = Arrays.copyOf(old.plainElements, size + 1);
         plain[size] = element;
-        return keepVector(vectors.withOneMore(old.top, size, element, NOBODY), size + 1, plain);
+        return keepVector(VectorWork.withOneMore(maker, old.top, size, element, NOBODY), size + 1, plain);
     }
 
     public int set(int value, int place, int element) throws IndexOutOfBoundsException, IllegalArgumentException, UnsupportedOperationException, NoSuchElementException, IllegalStateException {
@@ -87,12 +85,12 @@ public final class PersistentParlour {
         refusePlace(old, place);
         refuseMoreValues();
         int size = old.size;
-        if (vectors.elementIn(old.top, size, place) == element) {
+        if (VectorWork.elementIn(old.top, size, place) == element) {
             return keepVector(old.top, size, old.plainElements);
         }
         int[] plain = Arrays.copyOf(old.plainElements, size);
         plain[place] = element;
-        return keepVector(vectors.withOther(old.top, size, place, element, NOBODY), size, plain);
+        return keepVector(VectorWork.withOther(maker, old.top, size, place, element, NOBODY), size, plain);
     }
 
     public int cut(int value) throws IndexOutOfBoundsException, UnsupportedOperationException, NoSuchElementException, IllegalStateException {
@@ -103,7 +101,7 @@ public final class PersistentParlour {
             throw new NoSuchElementException("the vector is empty");
         }
         refuseMoreValues();
-        return keepVector(vectors.withOneLess(old.top, old.size), left, Arrays.copyOf(old.plainElements, left));
+        return keepVector(VectorWork.withOneLess(maker, old.top, old.size), left, Arrays.copyOf(old.plainElements, left));
     }
 
     public int depth(int value) throws IndexOutOfBoundsException, UnsupportedOperationException {
@@ -131,7 +129,7 @@ public final class PersistentParlour {
         refuseFull(changed);
         long before = maker.count;
         int size = changed.size;
-        changed.top = vectors.withOneMore(changed.top, size, element, value);
+        changed.top = VectorWork.withOneMore(maker, changed.top, size, element, value);
         changed.putPlain(size, element);
         changed.size = size + 1;
         return (int) (maker.count - before);
@@ -142,11 +140,11 @@ public final class PersistentParlour {
         refuseElement(element);
         refuseUnless(changed, OPEN);
         refusePlace(changed, place);
-        if (vectors.elementIn(changed.top, changed.size, place) == element) {
+        if (VectorWork.elementIn(changed.top, changed.size, place) == element) {
             return 0;
         }
         long before = maker.count;
-        changed.top = vectors.withOther(changed.top, changed.size, place, element, value);
+        changed.top = VectorWork.withOther(maker, changed.top, changed.size, place, element, value);
         changed.putPlain(place, element);
         return (int) (maker.count - before);
     }
@@ -188,7 +186,7 @@ public final class PersistentParlour {
         }
         int slot = holder == null ? old.size : old.plainSlotOf(key);
         int size = holder == null ? old.size + 1 : old.size;
-        Value made = new Value(MAP, maps.withPair(old.top, key, element), size,
+        Value made = new Value(MAP, MapWork.withPair(maker, old.top, key, element), size,
                 Arrays.copyOf(old.plainKeys, size), Arrays.copyOf(old.plainElements, size));
         made.putPlainPair(slot, key, element);
         return keep(made);
@@ -202,7 +200,7 @@ public final class PersistentParlour {
         }
         refuseMoreValues();
         int slot = old.plainSlotOf(key);
-        return keepMap(maps.withoutKey(old.top, key), old.size - 1,
+        return keepMap(MapWork.withoutKey(maker, old.top, key), old.size - 1,
                 rowWithout(old.plainKeys, slot), rowWithout(old.plainElements, slot));
     }
 
@@ -216,7 +214,7 @@ public final class PersistentParlour {
             return holder.elementAt(holder.slotOf(key));
         }
         refusePlace(asked, key);
-        return vectors.elementIn(asked.top, asked.size, key);
+        return VectorWork.elementIn(asked.top, asked.size, key);
     }
 
     public int getPlain(int value, int key) throws IndexOutOfBoundsException, NoSuchElementException {
@@ -342,7 +340,7 @@ public final class PersistentParlour {
         int owner = valueCount;
         Node top = maker.freshLeaf(owner);
         for (int i = 0; i < asked.count; i++) {
-            top = vectors.withOneMore(top, i, asked.elements[i], owner);
+            top = VectorWork.withOneMore(maker, top, i, asked.elements[i], owner);
         }
         return keepVector(top, asked.count, Arrays.copyOf(asked.elements, asked.count));
     }
@@ -650,9 +648,9 @@ public final class PersistentParlour {
         return shorter;
     }
 
-    private boolean sameElements(Value first, Value second) {
+    private static boolean sameElements(Value first, Value second) {
         for (int i = 0; i < first.size; i++) {
-            if (vectors.elementIn(first.top, first.size, i) != vectors.elementIn(second.top, second.size, i)) {
+            if (VectorWork.elementIn(first.top, first.size, i) != VectorWork.elementIn(second.top, second.size, i)) {
                 return false;
             }
         }
@@ -1010,12 +1008,6 @@ public final class PersistentParlour {
 
     /** Works on the nodes of vectors; the height of a leaf is 1. */
     private static final class VectorWork {
-        private final NodeMaker maker;
-
-        VectorWork(NodeMaker maker) {
-            this.maker = maker;
-        }
-
         static int depthFor(int size) {
             return size <= 4 ? 1 : size <= 16 ? 2 : 3;
         }
@@ -1024,7 +1016,7 @@ public final class PersistentParlour {
             return (place >> (2 * (height - 1))) & 3;
         }
 
-        int elementIn(Node top, int size, int place) {
+        static int elementIn(Node top, int size, int place) {
             Node node = top;
             for (int height = depthFor(size); height > 1 && node != null; height--) {
                 node = node.childAt(placeAt(height, place));
@@ -1032,7 +1024,7 @@ public final class PersistentParlour {
             return node == null ? 0 : node.elementAt(placeAt(1, place));
         }
 
-        Node withOneMore(Node top, int size, int element, int owner) {
+        static Node withOneMore(NodeMaker maker, Node top, int size, int element, int owner) {
             int depth = depthFor(size + 1);
             Node first;
             if (depth > depthFor(size)) {
@@ -1041,17 +1033,17 @@ public final class PersistentParlour {
             } else {
                 first = maker.ownOrCopy(top, owner);
             }
-            putIn(first, depth, size, element, owner);
+            putIn(maker, first, depth, size, element, owner);
             return first;
         }
 
-        Node withOther(Node top, int size, int place, int element, int owner) {
+        static Node withOther(NodeMaker maker, Node top, int size, int place, int element, int owner) {
             Node first = maker.ownOrCopy(top, owner);
-            putIn(first, depthFor(size), place, element, owner);
+            putIn(maker, first, depthFor(size), place, element, owner);
             return first;
         }
 
-        Node withOneLess(Node top, int size) {
+        static Node withOneLess(NodeMaker maker, Node top, int size) {
             int left = size - 1;
             if (depthFor(left) < depthFor(size)) {
                 return top.childAt(0);
@@ -1064,21 +1056,21 @@ public final class PersistentParlour {
                     node.putChild(placeAt(height, left), null);
                     return first;
                 }
-                node = changeableChild(node, height, left, NOBODY);
+                node = changeableChild(maker, node, height, left, NOBODY);
             }
             node.putElement(placeAt(1, left), 0);
             return first;
         }
 
-        private void putIn(Node first, int depth, int place, int element, int owner) {
+        private static void putIn(NodeMaker maker, Node first, int depth, int place, int element, int owner) {
             Node node = first;
             for (int height = depth; height > 1; height--) {
-                node = changeableChild(node, height, place, owner);
+                node = changeableChild(maker, node, height, place, owner);
             }
             node.putElement(placeAt(1, place), element);
         }
 
-        private Node changeableChild(Node node, int height, int place, int owner) {
+        private static Node changeableChild(NodeMaker maker, Node node, int height, int place, int owner) {
             Node child = node.childAt(placeAt(height, place));
             Node changeable;
             if (child != null) {
@@ -1093,12 +1085,6 @@ public final class PersistentParlour {
 
     /** Works on the nodes of maps. */
     private static final class MapWork {
-        private final NodeMaker maker;
-
-        MapWork(NodeMaker maker) {
-            this.maker = maker;
-        }
-
         static int placeOf(int key, int level) {
             int code = (37 * key ^ key / 8) & 255;
             return (code >> (2 * level)) & 3;
@@ -1117,7 +1103,7 @@ public final class PersistentParlour {
             return null;
         }
 
-        Node withPair(Node top, int key, int element) {
+        static Node withPair(NodeMaker maker, Node top, int key, int element) {
             int more = holderOf(top, key) == null ? 1 : 0;
             Node first = maker.copyOf(top, NOBODY);
             Node node = first;
@@ -1129,7 +1115,7 @@ public final class PersistentParlour {
                     node.putPair(place, key, element);
                     return first;
                 }
-                node = changeableChild(node, place);
+                node = changeableChild(maker, node, place);
             }
             int slot = more == 1 ? node.keyCount : node.slotOf(key);
             node.putPair(slot, key, element);
@@ -1137,16 +1123,16 @@ public final class PersistentParlour {
             return first;
         }
 
-        private Node changeableChild(Node node, int place) {
+        private static Node changeableChild(NodeMaker maker, Node node, int place) {
             Node child = node.childAt(place);
-            Node changeable = child == null ? lowered(node, place) : maker.copyOf(child, NOBODY);
+            Node changeable = child == null ? lowered(maker, node, place) : maker.copyOf(child, NOBODY);
             node.putPair(place, NONE, 0);
             node.putChild(place, changeable);
             return changeable;
         }
 
         /** A node of the next level with the only key that the place holds. */
-        private Node lowered(Node node, int place) {
+        private static Node lowered(NodeMaker maker, Node node, int place) {
             int key = node.keyAt(place);
             Node lower = maker.freshMapNode(node.level + 1);
             lower.putPair(lower.level < ROW_LEVEL ? placeOf(key, lower.level) : 0, key, node.elementAt(place));
@@ -1154,7 +1140,7 @@ public final class PersistentParlour {
             return lower;
         }
 
-        Node withoutKey(Node top, int key) {
+        static Node withoutKey(NodeMaker maker, Node top, int key) {
             Node first = maker.copyOf(top, NOBODY);
             Node node = first;
             for (int level = 0; level < ROW_LEVEL; level++) {
@@ -1169,7 +1155,7 @@ public final class PersistentParlour {
                     lift(node, place, child, key);
                     return first;
                 }
-                node = changeableChild(node, place);
+                node = changeableChild(maker, node, place);
             }
             dropFromRow(node, key);
             return first;

@@ -24,6 +24,7 @@ public final class SequencesTest {
         realisedAndChunks();
         collect();
         collectRefuses();
+        collectLooksAtEachElement();
         Check.finish();
     }
 
@@ -274,5 +275,27 @@ public final class SequencesTest {
         }
         Check.refuses("60 values, 1000", ARGUMENT, () -> p.collect(tooHigh));
         Check.refuses("60 values", STATE, () -> p.collect(over));
+    }
+
+    private static void collectLooksAtEachElement() {
+        PersistentParlour p = new PersistentParlour();
+        int falling = p.over(p.range(99, -9, 3), 'a', 98);
+        for (int i = 0; i < 8; i++) {
+            falling = p.over(falling, 'a', 99);
+        }
+        int within = falling;
+        int firstTooHigh = p.over(within, 'a', 11);
+        Check.same("the first is 1000", p.at(firstTooHigh, 0), 1000);
+        Check.same("the next is 991", p.at(firstTooHigh, 1), 991);
+        Check.refuses("1000 as the first", ARGUMENT, () -> p.collect(firstTooHigh));
+        Check.same("989 as the first", p.get(p.collect(within), 0), 989);
+        PersistentParlour q = new PersistentParlour();
+        int low = q.range(-99, -9, 1);
+        for (int i = 0; i < 9; i++) {
+            low = q.over(low, 'a', -99);
+        }
+        int deepest = q.over(low, 'a', -10);
+        Check.refuses("-1000", ARGUMENT, () -> q.collect(deepest));
+        Check.same("-990", q.get(q.collect(low), 0), -990);
     }
 }

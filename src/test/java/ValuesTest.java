@@ -99,6 +99,7 @@ public final class ValuesTest {
         Check.same("number", two, 2);
         Check.same("first", p.get(two, 0), -999);
         Check.same("second", p.get(two, 1), 999);
+        Check.same("second, plain", p.getPlain(two, 1), 999);
         Check.same("size", p.size(two), 2);
         Check.same("the old one stays", p.size(one), 1);
         Check.same("no node shared", p.shared(one, two), 0);
@@ -155,6 +156,7 @@ public final class ValuesTest {
         long made = p.made();
         int other = p.set(nine, 8, -5);
         Check.same("changed", p.get(other, 8), -5);
+        Check.same("changed, plain", p.getPlain(other, 8), -5);
         Check.same("the old one stays", p.get(nine, 8), 9);
         Check.same("beside it", p.get(other, 7), 8);
         Check.same("nodes made", p.made() - made, 2L);
@@ -436,6 +438,13 @@ public final class ValuesTest {
         int row = p.without(withKeys(p, 1, 360, 485), 360);
         Check.same("two stay in the row", p.nodes(row), 5);
         Check.same("in it", p.levelOf(row, 485), 4);
+        Check.same("with its element", p.get(row, 485), 85);
+        Check.refuses("the other one is gone", MISSING, () -> p.get(row, 360));
+        Check.refuses("from the plain rows, too", MISSING, () -> p.getPlain(row, 360));
+        Check.same("and can come again", p.get(p.put(row, 360, 7), 360), 7);
+        int longer = p.without(withKeys(p, 1, 360, 485, 570), 1);
+        Check.same("of four, three stay", p.get(longer, 360) + p.get(longer, 485) + p.get(longer, 570), 60 + 85 + 70);
+        Check.same("of three, two stay", p.get(p.without(longer, 570), 485), 85);
         made = p.made();
         int alone = p.without(row, 1);
         Check.same("the row is gone", p.nodes(alone), 1);
