@@ -27,9 +27,16 @@ final class Check {
         try {
             call.run();
         } catch (RuntimeException e) {
-            got = e.getClass();
+            got = thrown(e);
         }
         same(what, got, due);
+    }
+
+    /** The exception's class, or a text if it was not the program itself that threw it. */
+    static Object thrown(Throwable e) {
+        StackTraceElement[] trace = e.getStackTrace();
+        boolean isOwn = trace.length > 0 && trace[0].getClassName().startsWith("PersistentParlour");
+        return isOwn ? e.getClass() : "the machine's or the library's " + e.getClass();
     }
 
     static void finish() {

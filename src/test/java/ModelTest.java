@@ -256,7 +256,7 @@ public final class ModelTest {
         try {
             return method.invoke(target, args);
         } catch (InvocationTargetException e) {
-            return e.getCause().getClass();
+            return target instanceof PersistentParlour ? Check.thrown(e.getCause()) : e.getCause().getClass();
         }
     }
 
