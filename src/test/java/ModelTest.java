@@ -12,7 +12,7 @@ public final class ModelTest {
     private static final int CALLS = 512;
     private static final int[] EXTREMES = {-1, Integer.MIN_VALUE, Integer.MAX_VALUE, 1000, -1000, 60, 64, 100, -100, 0};
     /** Keys that meet at the deeper levels of a map: the first seven have one code. */
-    private static final int[] SAME_CODES = {1, 360, 485, 570, 695, 716, 723, 0, 256, 4, 64, 65};
+    private static final int[] SAME_CODES = {1, 360, 485, 570, 695, 716, 723, 58, 183, 30, 0, 256};
 
     /** What each argument stands for, by method: v value, p place or key, e element, k key, and so on. */
     private static final Map<String, String> ARGUMENTS = new TreeMap<>(Map.ofEntries(
@@ -64,6 +64,9 @@ public final class ModelTest {
         if (runs >= RUNS) {
             checkEachWasAnswered(seen);
         }
+        for (int run = 0; run < 12; run++) {
+            new ModelTest(run).playOn(run);
+        }
         Check.finish();
     }
 
@@ -107,6 +110,23 @@ public final class ModelTest {
         }
         if (run % 10 < 2) {
             checkAllOf(run, real, model);
+        }
+    }
+
+    /** Behind its 512 calls the answers are free, but the machine must not throw even then. */
+    private void playOn(int run) throws ReflectiveOperationException {
+        PersistentParlour real = new PersistentParlour();
+        for (int i = 0; i < 40 * CALLS; i++) {
+            Method method = methodNamed(pickName(run % 6));
+            Object[] args = pickArguments(method);
+            Object got = answer(real, method, args);
+            boolean isRefused = got instanceof Class;
+            Check.holds(method.getName() + " " + got, isRefused
+                    ? List.of(method.getExceptionTypes()).contains(got) : !(got instanceof String));
+            if (!isRefused) {
+                counts.merge(method.getName(), 1, Integer::sum);
+                remember(method.getName(), got, args);
+            }
         }
     }
 

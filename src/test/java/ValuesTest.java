@@ -451,6 +451,7 @@ public final class ValuesTest {
         Check.same("one made", p.made() - made, 1L);
         Check.same("element", p.get(alone, 485), 85);
         Check.same("plain element", p.getPlain(alone, 485), 85);
+        withoutBesideARow(p);
         int vector = p.vector();
         Check.refuses("no such value", INDEX, () -> p.without(60, 0));
         Check.refuses("a vector", UNSUPPORTED, () -> p.without(vector, 0));
@@ -459,6 +460,23 @@ public final class ValuesTest {
         PersistentParlour f = full();
         Check.refuses("60 values, no key", MISSING, () -> f.without(3, 8));
         Check.refuses("60 values", STATE, () -> f.without(3, 7));
+    }
+
+    /** The code of 58 parts from that of the others at level 3 only. */
+    private static void withoutBesideARow(PersistentParlour p) {
+        int four = withKeys(p, 1, 360, 58, 485);
+        int three = p.without(four, 1);
+        Check.same("the row stays", p.levelOf(three, 360), 4);
+        int two = p.without(three, 360);
+        Check.same("the row is gone", p.levelOf(two, 485), 3);
+        Check.same("its level stays", p.levelOf(two, 58), 3);
+        Check.same("nodes", p.nodes(two), 4);
+        int again = p.put(two, 360, 3);
+        Check.same("a row again", p.levelOf(again, 485), 4);
+        Check.same("it was not changed", p.nodes(two), 4);
+        int one = p.without(p.without(again, 360), 485);
+        Check.same("at the top", p.levelOf(one, 58), 0);
+        Check.same("of the row, none stays", p.size(one), 1);
     }
 
     private static void getAndGetPlain() {
