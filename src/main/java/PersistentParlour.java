@@ -1052,7 +1052,7 @@ public final class PersistentParlour {
             Node node = first;
             for (int height = depthFor(size); height > 1; height--) {
                 int below = 1 << (2 * (height - 1));
-                if (left % below == 0) {
+                if ((left & (below - 1)) == 0) {
                     node.putChild(placeAt(height, left), null);
                     return first;
                 }
