@@ -308,14 +308,14 @@ public final class PersistentParlour {
             refuseBroken(asked);
             throw new NoSuchElementException("no such element");
         }
-        realise(asked, asked.chunksFor(place));
+        realise(asked, asked.chunksFor(place), false);
         return asked.elements[place];
     }
 
     public int all(int sequence) throws IndexOutOfBoundsException, UnsupportedOperationException {
         Sequence asked = sequenceNumbered(sequence);
         refuseBroken(asked);
-        realise(asked, asked.chunkCount);
+        realise(asked, asked.chunkCount, true);
         return asked.count;
     }
 
@@ -335,7 +335,7 @@ public final class PersistentParlour {
             refuseElement(asked.elements[i]);
         }
         refuseMoreValues();
-        realise(asked, asked.chunkCount);
+        realise(asked, asked.chunkCount, true);
         // With an owner while it grows, every node of the new vector is made once only.
         int owner = valueCount;
         Node top = maker.freshLeaf(owner);
@@ -724,12 +724,18 @@ public final class PersistentParlour {
         return sequenceCount - 1;
     }
 
-    private static void realise(Sequence asked, int chunkCount) {
+    /**
+     * To ask for the whole sequence is more than to ask for its last chunk: by 't', the end shows
+     * only at the end of the source.
+     */
+    private static void realise(Sequence asked, int chunkCount, boolean whole) {
         Sequence sequence = asked;
         int due = chunkCount;
+        boolean isWhole = whole;
         for (int i = 0; i < MOST_SEQUENCES && sequence != null; i++) {
             sequence.realisedChunks = Math.max(sequence.realisedChunks, due);
-            due = sequence.sourceChunksFor(due);
+            isWhole = isWhole && sequence.endsWithSource();
+            due = sequence.sourceChunksFor(due, isWhole);
             sequence = due == NONE ? null : sequence.source;
         }
     }
@@ -1297,17 +1303,21 @@ public final class PersistentParlour {
             return needed;
         }
 
+        /** Tells whether all of this one needs all of its source. */
+        boolean endsWithSource() {
+            return source != null && (way != 't' || number > source.count);
+        }
+
         /** How many chunks of the source the first ones of this one need; NONE if it is not asked at all. */
-        int sourceChunksFor(int firstChunks) {
+        int sourceChunksFor(int firstChunks, boolean wholeSource) {
             if (source == null) {
                 return NONE;
             }
+            if (wholeSource) {
+                return source.chunkCount;
+            }
             if (way != 't') {
                 return firstChunks;
-            }
-            // That there is no further element shows only at the end of the source.
-            if (!broken && firstChunks == chunkCount && number > source.count) {
-                return source.chunkCount;
             }
             return firstChunks == 0 ? NONE : source.chunksFor(firstChunks - 1);
         }

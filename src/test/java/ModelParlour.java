@@ -2,7 +2,6 @@ import java.util.ArrayList;
 import java.util.HashMap;
 import java.util.HashSet;
 import java.util.LinkedHashMap;
-import java.util.LinkedHashSet;
 import java.util.List;
 import java.util.Map;
 import java.util.NoSuchElementException;
@@ -37,7 +36,7 @@ public final class ModelParlour {
         int number;
         int from;
         int many;
-        Set<Integer> realised = new LinkedHashSet<>();
+        List<List<Integer>> realised = new ArrayList<>();
     }
 
     private static final class Ref {
@@ -392,44 +391,58 @@ public final class ModelParlour {
         return (float) different.size() / (float) sum;
     }
 
-    // ---- sequences; a chunk that divides by 0 is null, and so is each that cannot be known
+    // ---- sequences: each chunk is pulled out of the source when it is asked, and put back if the call throws
 
     private Row row(int sequence) {
         index(in(sequence, 0, rows.size() - 1));
         return rows.get(sequence);
     }
 
-    private List<List<Integer>> chunksOf(Row row) {
-        List<List<Integer>> chunks = new ArrayList<>();
+    /** The chunk with this number, realised with those ahead of it; null if the sequence ends before. */
+    private List<Integer> chunk(Row row, int number) {
+        while (row.realised.size() <= number) {
+            List<Integer> next = nextChunk(row, row.realised.size());
+            if (next == null) {
+                return null;
+            }
+            row.realised.add(next);
+        }
+        return row.realised.get(number);
+    }
+
+    private List<Integer> nextChunk(Row row, int number) {
         if (row.way == 'r') {
-            for (int i = 0; i < row.many; i++) {
-                if (i % 4 == 0) {
-                    chunks.add(new ArrayList<>());
-                }
-                chunks.get(i / 4).add(row.from + i * row.number);
+            List<Integer> made = new ArrayList<>();
+            for (int i = 4 * number; i < 4 * number + 4 && i < row.many; i++) {
+                made.add(row.from + i * row.number);
             }
-            return chunks;
+            return made.isEmpty() ? null : made;
         }
-        for (List<Integer> chunk : chunksOf(rows.get(row.source))) {
-            if (row.way != 't') {
-                chunks.add(worked(chunk, row));
-                continue;
-            }
-            if (chunk == null && chunks.size() < row.number) {
-                chunks.add(null);
-                return chunks;
-            }
-            for (int i = 0; chunk != null && i < chunk.size() && chunks.size() < row.number; i++) {
-                chunks.add(List.of(chunk.get(i)));
-            }
+        Row source = rows.get(row.source);
+        if (row.way == 't') {
+            Integer element = number < row.number ? element(source, number) : null;
+            return element == null ? null : List.of(element);
         }
-        return chunks;
+        List<Integer> chunk = chunk(source, number);
+        return chunk == null ? null : worked(chunk, row);
+    }
+
+    /** The element at the place, or null if the sequence ends before it. */
+    private Integer element(Row row, int place) {
+        int before = 0;
+        for (int i = 0;; i++) {
+            List<Integer> chunk = chunk(row, i);
+            if (chunk == null) {
+                return null;
+            }
+            if (place < before + chunk.size()) {
+                return chunk.get(place - before);
+            }
+            before += chunk.size();
+        }
     }
 
     private static List<Integer> worked(List<Integer> chunk, Row row) {
-        if (chunk == null) {
-            return null;
-        }
         List<Integer> made = new ArrayList<>();
         for (int element : chunk) {
             if (row.way == 'a') {
@@ -438,9 +451,8 @@ public final class ModelParlour {
                 if (Math.floorMod(element, row.number) == 0) {
                     made.add(element);
                 }
-            } else if (element == 0) {
-                return null;
             } else {
+                supported(element != 0);
                 int size = Math.abs(row.number) / Math.abs(element);
                 made.add((row.number < 0) == (element < 0) ? size : -size);
             }
@@ -448,35 +460,24 @@ public final class ModelParlour {
         return made;
     }
 
-    private static int countOf(List<List<Integer>> chunks) {
-        int count = 0;
-        for (List<Integer> chunk : chunks) {
-            count += chunk == null ? 0 : chunk.size();
+    private List<Integer> wholeOf(Row row) {
+        List<Integer> elements = new ArrayList<>();
+        List<Integer> chunk = chunk(row, 0);
+        for (int i = 1; chunk != null; i++) {
+            elements.addAll(chunk);
+            chunk = chunk(row, i);
         }
-        return count;
+        return elements;
     }
 
-    /** Realises the first chunks, all of which must be known. */
-    private void realiseFirst(Row row, int many) {
-        List<List<Integer>> chunks = chunksOf(row);
-        for (int i = 0; i < many; i++) {
-            row.realised.add(i);
-        }
-        if (row.way == 'r') {
-            return;
-        }
-        Row source = rows.get(row.source);
-        List<List<Integer>> below = chunksOf(source);
-        if (row.way != 't') {
-            realiseFirst(source, many);
-        } else if (many == chunks.size() && !below.contains(null) && row.number > countOf(below)) {
-            realiseFirst(source, below.size());
-        } else if (many > 0) {
-            int needed = 0;
-            while (countOf(below.subList(0, needed)) < many) {
-                needed++;
-            }
-            realiseFirst(source, needed);
+    private int[] realisedOfAll() {
+        return rows.stream().mapToInt(row -> row.realised.size()).toArray();
+    }
+
+    private void putBack(int[] realised) {
+        for (int i = 0; i < realised.length; i++) {
+            List<List<Integer>> chunks = rows.get(i).realised;
+            chunks.subList(realised[i], chunks.size()).clear();
         }
     }
 
@@ -507,31 +508,30 @@ public final class ModelParlour {
 
     public int at(int sequence, int place) {
         Row row = row(sequence);
-        List<List<Integer>> chunks = chunksOf(row);
-        int before = 0;
-        for (int i = 0; i < chunks.size(); i++) {
-            supported(chunks.get(i) != null);
-            int size = chunks.get(i).size();
-            if (in(place, before, before + size - 1)) {
-                realiseFirst(row, i + 1);
-                return chunks.get(i).get(place - before);
-            }
-            before += size;
+        int[] before = realisedOfAll();
+        try {
+            Integer element = element(row, place < 0 ? Integer.MAX_VALUE : place);
+            there(element != null);
+            return element;
+        } catch (RuntimeException e) {
+            putBack(before);
+            throw e;
         }
-        throw new NoSuchElementException();
     }
 
     public int all(int sequence) {
         Row row = row(sequence);
-        List<List<Integer>> chunks = chunksOf(row);
-        supported(!chunks.contains(null));
-        realiseFirst(row, chunks.size());
-        return countOf(chunks);
+        int[] before = realisedOfAll();
+        try {
+            return wholeOf(row).size();
+        } catch (RuntimeException e) {
+            putBack(before);
+            throw e;
+        }
     }
 
     public int realised(int sequence) {
-        Row row = row(sequence);
-        return countOf(chunksOf(row).subList(0, row.realised.size()));
+        return row(sequence).realised.stream().mapToInt(List::size).sum();
     }
 
     public int chunks(int sequence) {
@@ -540,18 +540,19 @@ public final class ModelParlour {
 
     public int collect(int sequence) {
         Row row = row(sequence);
-        List<List<Integer>> chunks = chunksOf(row);
-        supported(!chunks.contains(null));
-        Content made = new Content('v');
-        for (List<Integer> chunk : chunks) {
-            for (int element : chunk) {
+        int[] before = realisedOfAll();
+        try {
+            Content made = new Content('v');
+            made.elements.addAll(wholeOf(row));
+            for (int element : made.elements) {
                 argument(in(element, -999, 999));
-                made.elements.add(element);
             }
+            room();
+            return keepNew(made);
+        } catch (RuntimeException e) {
+            putBack(before);
+            throw e;
         }
-        room();
-        realiseFirst(row, chunks.size());
-        return keepNew(made);
     }
 
     // ---- references and transactions

@@ -18,6 +18,8 @@ public final class SequencesTest {
         at();
         atOfFirstOnes();
         firstOnesAtTheEnd();
+        firstOnesInAChain();
+        firstOnesOfFirstOnes();
         firstOnesOfNone();
         division();
         all();
@@ -152,7 +154,49 @@ public final class SequencesTest {
         int last = p.over(other, 't', 2);
         Check.same("its only one", p.at(last, 0), 7);
         checkRealised(p, last, 1, 1);
+        checkRealised(p, other, 2, 1);
+        Check.refuses("another one", MISSING, () -> p.at(last, 1));
+        checkRealised(p, other, 2, 1);
+        Check.same("all, with all chunks there", p.all(last), 1);
         checkRealised(p, other, 3, 1);
+        int third = p.over(p.range(1, 1, 12), 'k', 7);
+        Check.same("collected", p.size(p.collect(p.over(third, 't', 2))), 1);
+        checkRealised(p, third, 3, 1);
+    }
+
+    /** Of a sequence over one by 't': an element of it asks for an element, all of it for all. */
+    private static void firstOnesInAChain() {
+        PersistentParlour p = new PersistentParlour();
+        int range = p.range(1, 1, 12);
+        int first = p.over(p.over(range, 'k', 7), 't', 2);
+        int more = p.over(first, 'a', 1);
+        int kept = p.over(more, 'k', 8);
+        Check.same("the last one", p.at(kept, 0), 8);
+        checkRealised(p, kept, 1, 1);
+        checkRealised(p, more, 1, 1);
+        checkRealised(p, first, 1, 1);
+        checkRealised(p, range, 2, 8);
+        Check.same("all", p.all(kept), 1);
+        checkRealised(p, range, 3, 12);
+    }
+
+    private static void firstOnesOfFirstOnes() {
+        PersistentParlour p = new PersistentParlour();
+        int range = p.range(1, 1, 12);
+        int inner = p.over(p.over(range, 'k', 7), 't', 2);
+        int exact = p.over(inner, 't', 1);
+        int further = p.over(inner, 't', 2);
+        Check.same("all of the exact one", p.all(exact), 1);
+        checkRealised(p, inner, 1, 1);
+        checkRealised(p, range, 2, 8);
+        Check.same("the last of the further one", p.at(further, 0), 7);
+        checkRealised(p, range, 2, 8);
+        Check.same("all of the further one", p.all(further), 1);
+        checkRealised(p, range, 3, 12);
+        int other = p.range(1, 1, 12);
+        int two = p.over(p.over(other, 'k', 4), 't', 2);
+        Check.same("all of more than two", p.all(p.over(two, 't', 9)), 2);
+        checkRealised(p, other, 2, 8);
     }
 
     private static void firstOnesOfNone() {
@@ -193,6 +237,7 @@ public final class SequencesTest {
         Check.refuses("one too many", UNSUPPORTED, () -> p.all(further));
         Check.same("of which one is there", p.at(further, 3), -6);
         checkRealised(p, further, 4, 4);
+        checkRealised(p, range, 1, 4);
         Check.refuses("collected", UNSUPPORTED, () -> p.collect(further));
         Check.refuses("0 by 0", UNSUPPORTED, () -> p.all(p.over(range, 'd', 0)));
         int kept = p.over(divided, 'k', 5);
