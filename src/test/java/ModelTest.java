@@ -10,6 +10,7 @@ import java.util.TreeMap;
 public final class ModelTest {
     private static final int RUNS = 1500;
     private static final int CALLS = 512;
+    private static final int ASKED_AT_ONCE = 212;
     private static final int[] EXTREMES = {-1, Integer.MIN_VALUE, Integer.MAX_VALUE, 1000, -1000, 60, 64, 100, -100, 0};
     /** Keys that meet at the deeper levels of a map: the first seven have one code. */
     private static final int[] SAME_CODES = {1, 360, 485, 570, 695, 716, 723, 58, 183, 30, 0, 256};
@@ -36,6 +37,9 @@ public final class ModelTest {
     private static final String[] REFERENCES = {"addReference", "begin", "read", "write", "ensure", "add", "commit",
         "end", "sentBack", "valueOf", "valueByLog", "history", "moment", "logged", "logAt"};
     private static final String[] AGENTS = {"addAgent", "send", "act", "beginAnew", "errors"};
+
+    private record Asked(Method method, Object[] args) {
+    }
 
     private final Random random;
     private final Map<String, Integer> counts = new TreeMap<>();
@@ -87,6 +91,7 @@ public final class ModelTest {
         PersistentParlour real = new PersistentParlour();
         ModelParlour model = new ModelParlour();
         List<String> story = new ArrayList<>();
+        List<Asked> calls = new ArrayList<>();
         int part = run % 6;
         for (int i = 0; i < CALLS; i++) {
             String name = pickName(part);
@@ -95,6 +100,7 @@ public final class ModelTest {
             Object got = answer(real, method, args);
             Object due = answer(model, ModelParlour.class.getMethod(name, method.getParameterTypes()), args);
             String call = name + java.util.Arrays.toString(args);
+            calls.add(new Asked(method, args));
             story.add(call + " -> " + due);
             Check.same("run " + run + ", call " + i + ", " + call, got, due);
             if (!got.equals(due)) {
@@ -108,8 +114,8 @@ public final class ModelTest {
                 remember(name, got, args);
             }
         }
-        if (run % 10 < 2) {
-            checkAllOf(run, real, model);
+        if (run % 10 < 1) {
+            checkAllOf(run, calls);
         }
     }
 
@@ -280,27 +286,45 @@ public final class ModelTest {
         }
     }
 
-    /** What no call has asked for must be the same, too. */
-    private static void checkAllOf(int run, PersistentParlour real, ModelParlour model)
-            throws ReflectiveOperationException {
+    /** What no call has asked for must be the same, too: each object is asked as long as its 512 calls last. */
+    private static void checkAllOf(int run, List<Asked> calls) throws ReflectiveOperationException {
+        List<Asked> begun = calls.subList(0, CALLS - ASKED_AT_ONCE);
+        ModelParlour model = new ModelParlour();
+        for (Asked call : begun) {
+            answer(model, modelMethod(call.method), call.args);
+        }
+        List<Asked> questions = questions();
+        for (int i = 0; i < questions.size(); i += ASKED_AT_ONCE) {
+            PersistentParlour real = new PersistentParlour();
+            for (Asked call : begun) {
+                answer(real, call.method, call.args);
+            }
+            for (Asked call : questions.subList(i, Math.min(i + ASKED_AT_ONCE, questions.size()))) {
+                String what = "run " + run + ", " + call.method.getName() + java.util.Arrays.toString(call.args);
+                Check.same(what, answer(real, call.method, call.args), answer(model, modelMethod(call.method), call.args));
+            }
+        }
+    }
+
+    private static Method modelMethod(Method method) throws NoSuchMethodException {
+        return ModelParlour.class.getMethod(method.getName(), method.getParameterTypes());
+    }
+
+    private static List<Asked> questions() {
+        List<Asked> questions = new ArrayList<>();
         String[] byNumber = {"size", "nodes", "isOpen", "depth", "realised", "chunks", "valueOf", "valueByLog",
             "history", "errors", "sentBack", "all"};
         for (String name : byNumber) {
-            Method method = methodNamed(name);
-            Method due = ModelParlour.class.getMethod(name, int.class);
             for (int i = 0; i < 60; i++) {
-                Object[] args = {i};
-                Check.same("run " + run + ", " + name + " " + i, answer(real, method, args), answer(model, due, args));
+                questions.add(new Asked(methodNamed(name), new Object[] {i}));
             }
         }
-        Method get = ModelParlour.class.getMethod("get", int.class, int.class);
         for (int i = 0; i < 3600; i++) {
-            Object[] args = {i / 60, i % 60 < 48 ? i % 60 : SAME_CODES[i % 12]};
-            Object due = answer(model, get, args);
-            Check.same("run " + run + ", get", answer(real, methodNamed("get"), args), due);
-            Check.same("run " + run + ", getPlain", answer(real, methodNamed("getPlain"), args), due);
-            Check.same("run " + run + ", shared", answer(real, methodNamed("shared"), args),
-                    answer(model, ModelParlour.class.getMethod("shared", int.class, int.class), args));
+            int key = i % 60 < 48 ? i % 60 : SAME_CODES[i % 12];
+            questions.add(new Asked(methodNamed("get"), new Object[] {i / 60, key}));
+            questions.add(new Asked(methodNamed("getPlain"), new Object[] {i / 60, key}));
+            questions.add(new Asked(methodNamed("shared"), new Object[] {i / 60, i % 60}));
         }
+        return questions;
     }
 }

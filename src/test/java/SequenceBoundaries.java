@@ -308,10 +308,28 @@ final class SequenceBoundaries {
                 .answers("over(1, 't', 1)", 3).after(Story.repeated("range(#, 1, 1)", 4, 10)).refuses(Story.INDEX, "chunks(11)")
                 .answers("over(10, 'k', 1)", 11).answers("chunks(11)", 0).refuses(Story.STATE, "range(1, 1, 1)", "over(0, 'a', 1)")
                 .refuses(Story.INDEX, "chunks(12)", "chunks(-1)");
+        chainsOfTwelve();
         Story rising = Story.term("Sequences", "23, 25", "A range has numbers that begin with one and go on by a step.")
                 .after("range(-99, 9, 24)", "range(99, -9, 24)", "range(42, 0, 24)");
         for (int i = 0; i < 24; i++) {
             rising.answers("at(0, " + i + ")", 9 * i - 99).answers("at(1, " + i + ")", 99 - 9 * i).answers("at(2, " + i + ")", 42);
+        }
+    }
+
+    /** The last of 12 sequences, each over the one before, needs something of all of them. */
+    private static void chainsOfTwelve() {
+        String said = "At most 12 sequences are numbered from 0.";
+        String[] adding = Story.joined(new String[] {"range(1, 1, 24)"}, Story.repeated("over(#, 'a', 1)", 0, 10));
+        String[] firstOnes = Story.joined(new String[] {"range(1, 1, 24)"}, Story.repeated("over(#, 't', 99)", 0, 10));
+        Story one = Story.term("Sequences", "24, 25, 28", said).after(adding).answers("at(11, 3)", 15);
+        Story all = Story.term("Sequences", "24, 26, 28", said).after(adding).answers("all(11)", 24);
+        Story first = Story.term("Sequences", "24, 25, 28", said).after(firstOnes).answers("at(11, 3)", 4);
+        Story last = Story.term("Sequences", "24, 26, 28", said).after(firstOnes).answers("all(11)", 24);
+        for (int i = 0; i < 12; i++) {
+            one.answers("chunks(" + i + ")", 1).answers("realised(" + i + ")", 4);
+            all.answers("chunks(" + i + ")", 6).answers("realised(" + i + ")", 24);
+            first.answers("chunks(" + i + ")", i == 0 ? 1 : 4).answers("realised(" + i + ")", 4);
+            last.answers("chunks(" + i + ")", i == 0 ? 6 : 24).answers("realised(" + i + ")", 24);
         }
     }
 

@@ -33,6 +33,7 @@ final class TransactionBoundaries {
         histories();
         open();
         sentBackForgets();
+        staysAsOld();
         reads();
         readsBehindHistories();
         points();
@@ -260,6 +261,10 @@ final class TransactionBoundaries {
                 .answers("end(0)", 0).answersEach(5, "valueOf(0)", "valueOf(1)", "valueOf(2)").answers("moment()", 0).answers("logged()", 0)
                 .refuses(Story.MISSING, "act(0)").refuses(Story.STATE, "end(0)", "commit(0)", "read(0, 0)").answers("write(1, 0, 1)", true)
                 .answers("write(2, 2, 1)", true).answers("begin(0)", 0).answers("read(0, 0)", 5).answers("read(0, 1)", 5).answers("write(0, 1, 2)", true);
+        Story.promise(37, "Ends a transaction without committing it.")
+                .after(BEGUN).after("addAgent(0, -9, 9, 'c')", "write(0, 0, 7)", "add(0, 1, 1)", "send(0, 0, 3)", "end(0)").answers("begin(0)", 0)
+                .answers("send(0, 0, 2)", 0).answers("add(0, 2, 1)", true).answers("commit(0)", 'c').answers("act(0)", 2)
+                .refuses(Story.MISSING, "act(0)").answers("logged()", 1).answers("valueOf(0)", 5).answers("valueOf(1)", 5).answers("valueOf(2)", 6);
         Story.promise(37, "Returns how often it was sent back.")
                 .after(BEGUN).after("write(0, 0, 1)", "write(1, 0, 1)", "ensure(1, 0)").answers("end(1)", 2).answers("end(0)", 0).answers("end(2)", 0)
                 .answers("begin(1)", 0).answers("end(1)", 0);
@@ -361,11 +366,32 @@ final class TransactionBoundaries {
                 .after(BEGUN).after("addAgent(0, -99, 99, 'c')", "write(0, 0, 3)", "write(1, 1, 8)", "ensure(1, 2)", "add(1, 0, 9)", "send(1, 0, 7)")
                 .answers("commit(1)", 's').answers("read(1, 0)", 5).answers("read(1, 1)", 5).answers("write(2, 2, 4)", true).answers("sentBack(1)", 1)
                 .answers("end(0)", 0).answers("commit(1)", 'c').answers("moment()", 0).refuses(Story.MISSING, "act(0)");
+        Story.term("Transactions", "36, 46, 47", BACK)
+                .after(BEGUN).after("addAgent(0, -99, 99, 'c')", "write(0, 0, 3)", "send(1, 0, 7)", "write(1, 0, 1)").answers("sentBack(1)", 1)
+                .answers("send(1, 0, 2)", 0).answers("write(1, 1, 4)", true).answers("add(1, 2, 1)", true).answers("commit(1)", 'c')
+                .answers("act(0)", 2).refuses(Story.MISSING, "act(0)").answers("valueOf(1)", 4).answers("valueOf(2)", 6).answers("valueOf(0)", 5)
+                .answers("begin(1)", 1).answers("send(1, 0, 5)", 0).answers("commit(1)", 'c').answers("act(0)", 7).refuses(Story.MISSING, "act(0)");
         Story.term("Transactions", "31 to 33", BACK)
                 .after(BEGUN).after("write(0, 1, 9)").answers("commit(0)", 'c').answers("read(1, 1)", 5).answers("begin(0)", 1)
                 .answers("ensure(1, 1)", false).answers("read(1, 1)", 9).answers("ensure(1, 1)", true).answers("write(0, 1, 1)", false)
                 .answers("sentBack(0)", 1).answers("write(0, 2, 1)", true).answers("write(1, 2, 1)", true).answers("sentBack(0)", 2)
                 .answers("write(2, 2, 1)", false).answers("sentBack(1)", 1);
+    }
+
+    /** The transaction 1 is between 0 and 2, however it is sent back. */
+    private static void staysAsOld() {
+        String[][] ways = {{"write(0, 0, 1)", "write(1, 0, 1)"}, {"write(0, 0, 1)", "ensure(1, 0)"}, {"ensure(0, 0)", "write(1, 0, 1)"},
+            {"write(1, 0, 1)", "write(0, 0, 1)"}, {"ensure(1, 0)", "write(0, 0, 1)"}, {"write(1, 0, 1)", "ensure(0, 0)"},
+            {"ensure(0, 0)", "add(1, 0, 1)", "commit(1)"}, {"ensure(1, 0)", "add(0, 0, 1)", "commit(0)", "begin(0)"},
+            {"write(0, 0, 1)", "commit(0)", "begin(0)", "write(1, 0, 1)"}, {"write(0, 0, 1)", "commit(0)", "begin(0)", "ensure(1, 0)"},
+            {"add(0, 0, 1)", "commit(0)", "begin(0)", "add(0, 0, 1)", "commit(0)", "begin(0)", "read(1, 0)"}};
+        for (String[] way : ways) {
+            boolean begunAnew = String.join(" ", way).contains("begin(0)");
+            Story.term("Transactions", "31 to 36", BACK)
+                    .after(BEGUN).after(way).answers("sentBack(1)", 1).answers("write(2, 1, 1)", true).answers("write(1, 1, 1)", true)
+                    .answers("sentBack(2)", 1).answers("write(0, 2, 1)", true).answers("write(1, 2, 1)", begunAnew)
+                    .answers("sentBack(0)", begunAnew ? 1 : 0).answers("sentBack(1)", begunAnew ? 1 : 2);
+        }
     }
 
     private static void reads() {
@@ -426,6 +452,9 @@ final class TransactionBoundaries {
         Story.term("Transactions", "33, 34", POINT)
                 .after("addReference(0, 0, 999)", "begin(0)", "begin(1)").after(committed(1, 1)).after("ensure(1, 0)").answers("ensure(1, 0)", true)
                 .answers("write(0, 0, 1)", false).answers("sentBack(1)", 1).answers("write(0, 0, 1)", true).answers("sentBack(1)", 2);
+        Story.term("Transactions", "33, 34", POINT)
+                .after("addReference(0, 0, 999)", "begin(0)", "begin(1)").after(committed(1, 1)).after("write(1, 0, 2)").answers("write(1, 0, 2)", true)
+                .answers("ensure(0, 0)", false).answers("sentBack(1)", 1).answers("ensure(0, 0)", true).answers("sentBack(1)", 2);
     }
 
     private static void againstOthers() {

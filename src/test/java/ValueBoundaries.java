@@ -149,6 +149,9 @@ final class ValueBoundaries {
                 .after("vector()").answers("sharing()", 1.0f).after("vector()", "map()").answers("sharing()", 1.0f).after("open(0)")
                 .answers("sharing()", 0.75f).after("open(0)", "open(0)").answers("sharing()", 0.5f).after("appendTo(3, 1)")
                 .answers("sharing()", 4.0f / 6.0f);
+        Story.promise(50, "Returns the share.")
+                .after("map()", "put(0, 0, 1)", "put(1, 118, 2)", "put(2, 118, 3)").answers("sharing()", 1.0f).after("put(3, 1, 9)")
+                .answers("sharing()", 13.0f / 17.0f).after("put(3, 118, 3)").answers("sharing()", 13.0f / 22.0f);
         Story most = Story.promise(50, "Returns the share.").after(Story.grown(64));
         for (int i = 3; i < 60; i++) {
             most.answers("open(2)", i);
