@@ -17,6 +17,7 @@ public final class BoundaryTest {
         CommitBoundaries.tell();
         AgentBoundaries.tell();
         WholeBoundaries.tell();
+        OverviewBoundaries.tell();
         DocumentText.checkEachIsNamed();
         Check.finish();
     }

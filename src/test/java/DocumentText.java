@@ -84,7 +84,7 @@ final class DocumentText {
             String title = sentence.substring(0, sentence.length() - 1);
             if (TERMS.contains(title)) {
                 at = title;
-            } else if (!at.equals("Terms")) {
+            } else {
                 SENTENCES.add(at + ": " + sentence);
             }
         }
