@@ -309,7 +309,7 @@ public final class PersistentParlour {
             throw new NoSuchElementException("no such element");
         }
         realise(asked, asked.chunksFor(place), false);
-        return asked.elements[place];
+        return asked.elementAt(place);
     }
 
     public int all(int sequence) throws IndexOutOfBoundsException, UnsupportedOperationException {
@@ -332,7 +332,7 @@ public final class PersistentParlour {
         Sequence asked = sequenceNumbered(sequence);
         refuseBroken(asked);
         for (int i = 0; i < asked.count; i++) {
-            refuseElement(asked.elements[i]);
+            refuseElement(asked.elementAt(i));
         }
         refuseMoreValues();
         realise(asked, asked.chunkCount, true);
@@ -340,7 +340,7 @@ public final class PersistentParlour {
         int owner = valueCount;
         Node top = maker.freshLeaf(owner);
         for (int i = 0; i < asked.count; i++) {
-            top = VectorWork.withOneMore(maker, top, i, asked.elements[i], owner);
+            top = VectorWork.withOneMore(maker, top, i, asked.elementAt(i), owner);
         }
         return keepVector(top, asked.count, Arrays.copyOf(asked.elements, asked.count));
     }
@@ -380,7 +380,7 @@ public final class PersistentParlour {
             reader.goBack(present);
             return SENT_BACK;
         }
-        return asked.pastValues[entry] + reader.sums[reference];
+        return asked.valueAt(entry) + reader.sums[reference];
     }
 
     public boolean write(int transaction, int reference, int value) throws IllegalArgumentException, IndexOutOfBoundsException, IllegalStateException, UnsupportedOperationException {
@@ -1233,7 +1233,7 @@ public final class PersistentParlour {
                 return;
             }
             for (int i = 0; i < source.count && i < number; i++) {
-                takeElement(source.elements[i]);
+                takeElement(source.elementAt(i));
                 closeChunk();
             }
             broken = source.broken && number > source.count;
@@ -1251,7 +1251,7 @@ public final class PersistentParlour {
                     return;
                 }
                 for (int i = from; i < to; i++) {
-                    takeFrom(source.elements[i]);
+                    takeFrom(source.elementAt(i));
                 }
                 closeChunk();
             }
@@ -1269,12 +1269,16 @@ public final class PersistentParlour {
         }
 
         private boolean hasZero(int from, int to) {
-            for (int i = from; i < to && i < elements.length; i++) {
-                if (elements[i] == 0) {
+            for (int i = from; i < to; i++) {
+                if (elementAt(i) == 0) {
                     return true;
                 }
             }
             return false;
+        }
+
+        int elementAt(int place) {
+            return place < 0 || place >= elements.length ? 0 : elements[place];
         }
 
         private void takeElement(int element) {
@@ -1340,16 +1344,24 @@ public final class PersistentParlour {
         }
 
         int latestValue() {
-            return pastValues[kept - 1];
+            return valueAt(kept - 1);
         }
 
         int latestMoment() {
-            return pastMoments[kept - 1];
+            return momentAt(kept - 1);
+        }
+
+        int valueAt(int entry) {
+            return entry < 0 || entry >= pastValues.length ? firstValue : pastValues[entry];
+        }
+
+        private int momentAt(int entry) {
+            return entry < 0 || entry >= pastMoments.length ? 0 : pastMoments[entry];
         }
 
         int entryNotBehind(int point) {
             for (int i = kept - 1; i >= 0; i--) {
-                if (pastMoments[i] <= point) {
+                if (momentAt(i) <= point) {
                     return i;
                 }
             }
@@ -1362,15 +1374,21 @@ public final class PersistentParlour {
 
         void come(int value, int moment) {
             if (kept >= limit) {
-                for (int i = 1; i < kept; i++) {
-                    pastValues[i - 1] = pastValues[i];
-                    pastMoments[i - 1] = pastMoments[i];
-                }
-                kept--;
+                dropOldest();
             }
-            pastValues[kept] = value;
-            pastMoments[kept] = moment;
-            kept++;
+            if (kept < MOST_HISTORY) {
+                pastValues[kept] = value;
+                pastMoments[kept] = moment;
+                kept++;
+            }
+        }
+
+        private void dropOldest() {
+            for (int i = 1; i < kept && i < MOST_HISTORY; i++) {
+                pastValues[i - 1] = pastValues[i];
+                pastMoments[i - 1] = pastMoments[i];
+            }
+            kept--;
         }
     }
 
@@ -1463,14 +1481,14 @@ public final class PersistentParlour {
         }
 
         void lineUpAll(WaitingRow other) {
-            for (int i = 0; i < other.count; i++) {
+            for (int i = 0; i < other.count && i < other.numbers.length; i++) {
                 lineUp(other.numbers[i]);
             }
         }
 
         int takeFirst() {
             int first = numbers[0];
-            for (int i = 1; i < count; i++) {
+            for (int i = 1; i < count && i < numbers.length; i++) {
                 numbers[i - 1] = numbers[i];
             }
             count = Math.max(count - 1, 0);
